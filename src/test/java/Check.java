@@ -4,14 +4,19 @@ final class Check {
         long answer();
     }
 
+    private String test = "";
     private int wrong = 0;
     private int asked = 0;
+
+    /** What is asked from here on belongs to this test. */
+    void begin(String name) {
+        test = name + ": ";
+    }
 
     void due(String call, long got, long want) {
         asked++;
         if (got != want) {
-            wrong++;
-            System.out.println(call + " answered " + got + ", due is " + want);
+            tell(call + " answered " + got + ", due is " + want);
         }
     }
 
@@ -35,15 +40,13 @@ final class Check {
             }
             got = "threw " + e.getClass().getName();
         }
-        wrong++;
-        System.out.println(call + " " + got + ", due is " + want.getName());
+        tell(call + " " + got + ", due is " + want.getName());
     }
 
     void text(String what, String got, String want) {
         asked++;
         if (!got.equals(want)) {
-            wrong++;
-            System.out.println(what + " is " + got + ", due is " + want);
+            tell(what + " is " + got + ", due is " + want);
         }
     }
 
@@ -57,10 +60,19 @@ final class Check {
         due(call + ": at(" + want.length + ")", x.at(want.length), MeasureRows.NONE);
     }
 
+    void broken(Throwable cause) {
+        tell("broke off by " + cause);
+    }
+
     void finish() {
         System.out.println(asked + " answers, " + wrong + " not as due");
         if (wrong != 0) {
             System.exit(1);
         }
+    }
+
+    private void tell(String fault) {
+        wrong++;
+        System.out.println(test + fault);
     }
 }

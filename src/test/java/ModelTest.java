@@ -286,16 +286,17 @@ public final class ModelTest {
     private static final String[] SHAPES = {"gp", "gg", "gl", "cpdekrd", "nl", "nl", "ned", "b", "Cldd", "i",
         "cld", "ddi", "ni", "i"};
     private static final int[] CODES = {12, 1234, 123456, 1212, 121212, 123412, 99, 9999, 999999, 123457};
+    private static final int[] SIX_DIGITS = {121212, 123412, 123457, 999999, 9999};
     private static final int[] WRONG = {Integer.MIN_VALUE, -1, 9, 24, 30, 31, 32, 100, 10001, 20000, 20001,
         1000000, Integer.MAX_VALUE};
 
-    private static int draw(Random random, char shape, int spread) {
-        if (random.nextInt(120) == 0) {
+    private static int draw(Random random, char shape, int spread, int rareness) {
+        if (random.nextInt(rareness) == 0) {
             return WRONG[random.nextInt(WRONG.length)];
         }
         switch (shape) {
             case 'c': return CODES[random.nextInt(CODES.length)];
-            case 'C': return random.nextBoolean() ? 123456 : CODES[2 + 2 * random.nextInt(4)];
+            case 'C': return random.nextBoolean() ? 123456 : SIX_DIGITS[random.nextInt(SIX_DIGITS.length)];
             case 'l': return random.nextInt(random.nextBoolean() ? 4 : 17);
             case 'p': return random.nextInt(4) == 0 ? 31 : random.nextInt(3) == 0 ? random.nextInt(5)
                     : 16 + random.nextInt(8);
@@ -337,13 +338,15 @@ public final class ModelTest {
         for (int run = 1; run <= RUNS; run++) {
             Random random = new Random(run);
             int spread = run % 4 == 0 ? 10001 : 12;
+            // Most runs go deep; some are mostly refused.
+            int rareness = run % 5 == 0 ? 6 : 120;
             MeasureRows x = new MeasureRows();
             Model model = new Model();
             for (int call = 1; call <= CALLS; call++) {
                 int method = drawMethod(random);
                 int[] a = new int[7];
                 for (int i = 0; i < SHAPES[method].length(); i++) {
-                    a[i] = draw(random, SHAPES[method].charAt(i), spread);
+                    a[i] = draw(random, SHAPES[method].charAt(i), spread, rareness);
                 }
                 check.text("run " + run + ", call " + call + ": " + told(method, a),
                         ask(x, method, a), model.tell(method, a));
