@@ -1,12 +1,16 @@
+import java.io.IOException;
 import java.lang.reflect.Constructor;
 import java.lang.reflect.Field;
 import java.lang.reflect.Method;
 import java.lang.reflect.Modifier;
+import java.nio.file.Files;
+import java.nio.file.Path;
 import java.util.Set;
 import java.util.TreeSet;
 
 /** The public face is the document's and nothing more. */
 public final class FaceTest {
+    private static final Path DOCUMENT = Path.of("../shared/DOC.md");
     private static final String[] METHODS = {
         "boolean member(int,int)",
         "boolean ring(int,int) throws IndexOutOfBoundsException",
@@ -38,8 +42,34 @@ public final class FaceTest {
                 + (thrown.isEmpty() ? "" : " throws " + thrown);
     }
 
-    public static void main(String[] args) {
+    /** The methods as the document's face has them, without the parameters' names. */
+    private static Set<String> documentsMethods() throws IOException {
+        Set<String> methods = new TreeSet<>();
+        for (String line : Files.readAllLines(DOCUMENT)) {
+            if (line.matches("    public \\w+ \\w+\\(.*;")) {
+                methods.add(line.trim().replaceFirst("^public ", "").replaceFirst(";$", "")
+                        .replaceAll("int \\w+(?=[,)])", "int").replace(", ", ","));
+            }
+        }
+        return methods;
+    }
+
+    private static void compareWithDocument(Check check) throws IOException {
+        check.text("the document's methods", documentsMethods().toString(),
+                new TreeSet<>(Set.of(METHODS)).toString());
+        String document = Files.readString(DOCUMENT);
+        for (String constant : new String[] {"NONE = " + MeasureRows.NONE, "OPEN = " + MeasureRows.OPEN}) {
+            check.yes("the document has " + constant, document.contains("public static final int " + constant + ";"));
+        }
+    }
+
+    public static void main(String[] args) throws IOException {
         Check check = new Check();
+        if (Files.exists(DOCUMENT)) {
+            compareWithDocument(check);
+        } else {
+            System.out.println("no " + DOCUMENT + ": the face is not compared with it");
+        }
         Class<?> c = MeasureRows.class;
         check.yes("the class is public", Modifier.isPublic(c.getModifiers()));
         check.yes("the class is final", Modifier.isFinal(c.getModifiers()));
